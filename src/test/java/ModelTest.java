@@ -11,7 +11,6 @@ public final class ModelTest {
   private static final int RUNS = 1500, CALLS = 400;
   private static final Map<String, Method> FACE = new HashMap<>(), MODEL = new HashMap<>();
   private static final List<String> NAMES = new ArrayList<>();
-  private static final Map<String, Map<String, Integer>> ANSWERS = new HashMap<>();
 
   public static void main(String[] args) throws Exception {
     for (Method m : BridgeSentences.class.getDeclaredMethods()) {
@@ -24,8 +23,6 @@ public final class ModelTest {
     int calls = 0;
     for (int seed = 0; seed < RUNS; seed++) calls += new Run(seed).go();
     texts();
-    boolean isShown = args.length > 0;
-    if (isShown) for (String name : NAMES) System.out.println(name + " " + ANSWERS.get(name));
     System.out.println(RUNS + " runs, " + calls + " calls, all as the model's");
   }
 
@@ -110,6 +107,7 @@ public final class ModelTest {
       if (die == 2) { judgeRow(); return; }
       if (die == 3) { call("see", -1, 0); return; }
       if (die == 4) { seeAsItIs(); return; }
+      if (die == 5) { askAll(); return; }
       String name = NAMES.get(r.nextInt(NAMES.size()));
       if ((name.equals("undo") || name.equals("image")) && r.nextInt(3) != 0) return;
       if (name.equals("bridge") && r.nextInt(3) != 0) return;
@@ -131,6 +129,26 @@ public final class ModelTest {
       for (int i = 0; i < people; i++) {
         if (r.nextBoolean()) call("see", i, Math.max(-1, x.of(i, 5)));
       }
+    }
+
+    /** All that can be asked of one who HAS something. */
+    private void askAll() throws Exception {
+      if (x.count(0) == 0) return;
+      int p = r.nextInt(x.count(0));
+      call("learn", p, set());
+      for (int what = 5; what <= 8; what++) call("of", p, what);
+      int tip = x.of(p, 5);
+      call("decoy", p, tip < 0 ? r.nextInt(12) : tip);
+      for (int part = 0; part < 2; part++) {
+        call("can", p, part);
+        call("odds", p, part);
+        call("mean", days(), part);
+        call("ends", part);
+      }
+      call("told", 30 + r.nextInt(12));
+      call("told", 50 + r.nextInt(12));
+      call("act", p, r.nextInt(3), r.nextInt(100) - 50);
+      for (int i = 0; i < 13; i++) call("trace", i);
     }
 
     private Object[] arguments(String name) {
@@ -171,8 +189,6 @@ public final class ModelTest {
       Object got = FACE.get(name).invoke(x, arguments);
       Object want = MODEL.get(name).invoke(m, arguments);
       told.add(name + Arrays.toString(arguments) + " -> " + got);
-      String sort = ((Number) want).longValue() < 0 ? "" + want : "0 or more";
-      ANSWERS.computeIfAbsent(name, k -> new HashMap<>()).merge(sort.length() > 9 ? "far" : sort, 1, Integer::sum);
       if (!got.equals(want)) {
         for (String line : told.subList(Math.max(0, told.size() - 600), told.size())) System.out.println(line);
         System.out.println("run " + seed + ": the last answer is wrong, the model's is " + want);
