@@ -75,7 +75,7 @@ public final class BridgeSentences {
             case 5: return orNotAny(now.tipOf(p, p.has));
             case 6: return dearOf(p);
             case 7: return hadSets(p);
-            case 8: return leastHad(p);
+            case 8: return hadSets(p) == 0 ? NOT_ANY : leastHad(p);
             default: return NONE;
         }
     }
@@ -596,11 +596,8 @@ public final class BridgeSentences {
         return tip < 0 ? now.setsWithoutTip(p) : now.setsWithTip(p, tip);
     }
 
-    /** The least set with a TIP has that alone (whatever else it had would only press less); without one it is empty. */
+    /** If there is any: the least set with a TIP has that alone (whatever else it had would only press less); without one it is empty. */
     private int leastHad(One p) {
-        if (hadSets(p) == 0) {
-            return NOT_ANY;
-        }
         int tip = now.seenOf(p.number);
         return tip < 0 ? 0 : 1 << tip;
     }
@@ -1055,12 +1052,14 @@ public final class BridgeSentences {
 
         /** One digit or two; -1: there is none. */
         private int number() {
-            int n = -1;
-            for (int i = 0; i < 2 && text[at] >= '0' && text[at] <= '9'; i++) {
-                n = Math.max(n, 0) * 10 + text[at] - '0';
+            int n = 0;
+            int digits = 0;
+            while (digits < 2 && text[at] >= '0' && text[at] <= '9') {
+                n = n * 10 + text[at] - '0';
                 at++;
+                digits++;
             }
-            return n;
+            return digits == 0 ? -1 : n;
         }
 
         /** The n of all press that hold, less those of all hold. */

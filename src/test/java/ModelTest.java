@@ -8,7 +8,7 @@ import java.util.Random;
 
 /** Runs of calls by chance (seeded) on the class and on the Model: each answer must be the same. */
 public final class ModelTest {
-  private static final int RUNS = 1500, CALLS = 400;
+  private static final int RUNS = 4000;
   private static final Map<String, Method> FACE = new HashMap<>(), MODEL = new HashMap<>();
   private static final List<String> NAMES = new ArrayList<>();
 
@@ -63,7 +63,7 @@ public final class ModelTest {
       for (int i = 0; i < people; i++) call("one", r.nextInt(7), r.nextInt(10), set());
       for (int s = 0; isSmall && s < 12; s++) call("worth", s, r.nextInt(8));
       if (r.nextInt(4) != 0) feed(Texts.whole(r));
-      for (int i = 0; i < CALLS; i++) step();
+      while (!isOver()) step();
       return told.size();
     }
 
@@ -118,26 +118,26 @@ public final class ModelTest {
     private void judgeRow() throws Exception {
       int t = r.nextInt(6), n = r.nextInt(16), from = r.nextInt(4);
       call("tape", t, 3, n);
-      for (int s = 0; s < 12 && from + s < n; s++) call("item", t, from + s, (long) x.told(10 + s));
+      for (int s = 0; s < 12 && from + s < n; s++) call("item", t, from + s, (long) m.told(10 + s));
       if (r.nextInt(2) == 0) call("item", t, near(0, 15), value());
       call("judge", t, from);
     }
 
     private void seeAsItIs() throws Exception {
       call("see", -1, 5);
-      int people = x.count(0);
+      int people = m.count(0);
       for (int i = 0; i < people; i++) {
-        if (r.nextBoolean()) call("see", i, Math.max(-1, x.of(i, 5)));
+        if (r.nextBoolean()) call("see", i, Math.max(-1, m.of(i, 5)));
       }
     }
 
     /** All that can be asked of one who HAS something. */
     private void askAll() throws Exception {
-      if (x.count(0) == 0) return;
-      int p = r.nextInt(x.count(0));
+      if (m.count(0) == 0) return;
+      int p = r.nextInt(m.count(0));
       call("learn", p, set());
       for (int what = 5; what <= 8; what++) call("of", p, what);
-      int tip = x.of(p, 5);
+      int tip = m.of(p, 5);
       call("decoy", p, tip < 0 ? r.nextInt(12) : tip);
       for (int part = 0; part < 2; part++) {
         call("can", p, part);
@@ -171,7 +171,7 @@ public final class ModelTest {
         case "mean": return new Object[] {days(), near(0, 1)};
         case "plan": return new Object[] {r.nextInt(30) == 0 ? -1 : near(0, 3), near(0, 11)};
         case "ends": return new Object[] {near(0, 1)};
-        case "book": return new Object[] {r.nextInt(30) == 0 ? -1 : s, r.nextBoolean() ? near(0, 20) : x.told(10 + Math.max(0, Math.min(11, s)))};
+        case "book": return new Object[] {r.nextInt(30) == 0 ? -1 : s, r.nextBoolean() ? near(0, 20) : m.told(10 + Math.max(0, Math.min(11, s)))};
         case "judge": return new Object[] {near(0, 5), near(0, 3)};
         case "act": return new Object[] {p, near(0, 2), r.nextBoolean() ? r.nextInt(40) - 20 : r.nextInt()};
         case "trace": return new Object[] {near(0, 19)};
@@ -185,12 +185,18 @@ public final class ModelTest {
       }
     }
 
+    private boolean isOver() {
+      return told.size() >= Faces.MOST_CALLS;
+    }
+
+    /** What the run itself wants to know it asks the Model, so that these are all calls of the object. */
     private void call(String name, Object... arguments) throws Exception {
+      if (isOver()) return;
       Object got = FACE.get(name).invoke(x, arguments);
       Object want = MODEL.get(name).invoke(m, arguments);
       told.add(name + Arrays.toString(arguments) + " -> " + got);
       if (!got.equals(want)) {
-        for (String line : told.subList(Math.max(0, told.size() - 600), told.size())) System.out.println(line);
+        for (String line : told) System.out.println(line);
         System.out.println("run " + seed + ": the last answer is wrong, the model's is " + want);
         System.exit(1);
       }
