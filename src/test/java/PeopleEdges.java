@@ -107,6 +107,26 @@ final class PeopleEdges extends Edges {
       x.see(0, 5);
       for (int what : new int[] {-1, 9, LOW, HIGH}) is(x.of(0, what), -1);
     });
+    edge(3, "Of one what 0 KIND, 1 v, 2 HAS (bits)", "the least and the greatest")
+        .broken("of", "return p.kind", "return Math.min(p.kind, 5)")
+        .broken("of", "return p.v", "return Math.max(p.v, 1)")
+        .broken("of", "return p.has", "return p.has & 2047")
+        .by(() -> {
+          Face x = with(0, 0, 0);
+          x.one(6, 9, 4095);
+          for (int what = 0; what <= 2; what++) is(x.of(0, what), 0);
+          is(x.of(1, 0), 6);
+          is(x.of(1, 1), 9);
+          is(x.of(1, 2), 4095);
+        });
+    edge(3, "4 BACK", "the least and the greatest").broken("of", "return p.back", "return Math.min(p.back, 9998)").by(() -> {
+      Face x = with(0, 0, 0);
+      is(x.of(0, 4), 0);
+      goTo(x, 9998);
+      is(x.of(0, 4), 9998);
+      x.pass(1);
+      is(x.of(0, 4), 9999);
+    });
     edge(3, "3 whether it is BEYOND").broken("of", "p.beyond ? 1 : 0", "p.beyond ? 1 : -5").by(() -> {
       Face x = with(0, 0, 0);
       is(x.of(0, 3), 0);

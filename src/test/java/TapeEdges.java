@@ -311,7 +311,7 @@ final class TapeEdges extends Edges {
   private void act() {
     edge(26, "0, and no TRACE then: no such one, act", "no such one")
         .broken("act", "if (!isPerson(person) ||", "if (person != 0) return -1; if (")
-        .broken("act", "bodies = new ArrayList<>();\n    if (!isPerson(person) || act < 0 || act > 2) return 0;", "if (!isPerson(person) || act < 0 || act > 2) return 0; bodies = new ArrayList<>();")
+        .broken("act", "bodies = new ArrayList<>();", "if (!isPerson(person)) return 0; bodies = new ArrayList<>();")
         .by(() -> {
           Face x = with(0, 0, 1);
           for (int p : NOBODY) {

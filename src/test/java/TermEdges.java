@@ -168,6 +168,18 @@ final class TermEdges extends Edges {
           is(x.urge(0, 0), 10 - 198);
           is(x.urge(0, 1), 10 - 198 + 5);
         });
+    edge(TERMS, "the n of all press whose E holds, less those of all hold, together (may be below 0)", "n is 0, or 99")
+        .broken("sum", "sum += Integer.parseInt(parts[1])", "sum += Math.max(1, Integer.parseInt(parts[1]))")
+        .broken("sum", "sum -= Integer.parseInt(parts[1])", "sum -= Math.max(1, Integer.parseInt(parts[1]))")
+        .broken("sum", "sum += Integer.parseInt(parts[1])", "sum += Math.min(98, Integer.parseInt(parts[1]))")
+        .broken("sum", "sum -= Integer.parseInt(parts[1])", "sum -= Math.min(98, Integer.parseInt(parts[1]))")
+        .by(() -> {
+          Face x = with(0, 0, 0);
+          is(bridge(x, "press 0 p=0;press 99 s=1;hold 00 p=0;hold 99 s=2"), 0);
+          is(x.urge(0, 0), 10);
+          is(x.urge(0, 1), 109);
+          is(x.urge(0, 2), -89);
+        });
     edge(TERMS, "FREE (0 without)", "no BRIDGE").broken("free", "int free = 0", "int free = held < 0 ? 1 : 0").by(() -> {
       Face x = with(0, 0, 1);
       is(x.told(1), 0);
@@ -386,6 +398,19 @@ final class TermEdges extends Edges {
             x.pass(1);
             is(x.told(3), heard[day]);
           }
+        });
+    edge(TERMS, "and DAY a multiple of it", "of 99")
+        .broken("goDay", "day % free == 0", "day % Math.min(free, 98) == 0")
+        .broken("goDay", "day % free == 0", "day == 0")
+        .by(() -> {
+          Face x = with(0, 0, 0);
+          is(bridge(x, "free 99"), 0);
+          goTo(x, 98);
+          x.learn(0, 1);
+          is(x.pass(1), 99);
+          is(x.told(2), 1);
+          is(x.pass(1), 100);
+          is(x.told(3), 1);
         });
     edge(TERMS, "and DAY a multiple of it", "each DAY of 1").broken("goDay", "free > 0", "free > 1").by(() -> {
       Face x = with(0, 0, 1);

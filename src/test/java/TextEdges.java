@@ -274,7 +274,7 @@ final class TextEdges extends Edges {
           holds("w=0", 0);
         });
     edge(TERMS, "a number (1 or 2 digits)", "three")
-        .broken("fault", "digits++; continue; }\n        if (digits == 0) return i;\n        state", "digits++; continue; }\n        if (digits == 2 && digit) continue;\n        if (digits == 0) return i;\n        state")
+        .broken("fault", "if (digits == 0) return i;\n        state = 'A';", "if (digit) continue; if (digits == 0) return i; state = 'A';")
         .by(() -> {
           fault("press 1 p=12", "3");
           fault("press 1 (p=00", "0)");
@@ -399,9 +399,8 @@ final class TextEdges extends Edges {
         .broken("fault", "int fault(String t) {", "int fault(String t) { if (t.endsWith(\"?\")) return t.length() - 1;")
         .by(() -> fault("free 1", "?;?"));
     edge(TERMS, "(the end of THE TEXT, if it ends too early)").broken("fault", "? -1 : t.length()", "? -1 : t.length() - 1").by(() -> {
-      for (String t : new String[] {"f", "free", "free ", "free 1;", "hold 1", "hold 1 ", "hold 1 p", "hold 1 p=", "hold 1 (", "hold 1 (p=1", "hold 1 !", "hold 1 p=1|", "hold 1 p=1&"}) {
-        fault(t, "");
-      }
+      for (String t : new String[] {"f", "free", "free ", "free 1;", "hold 1", "hold 1 "}) fault(t, "");
+      for (String e : new String[] {"p", "p=", "(", "(p=1", "!", "p=1|", "p=1&"}) fault("hold 1 " + e, "");
       fault("press 1 p=1" + times("|p=1", 22) + "|", "");
     });
   }
