@@ -138,6 +138,13 @@ final class AskedEdges extends Edges {
           worths(x, 5, 6);
           is(x.of(0, 6), 0);
         });
+    edge(TERMS, "by how much WORTH of its TIP may be less (0 .. 20;", "1").broken("dear", "return most;", "return most == 1 ? 0 : most;").by(() -> {
+      Face x = with(0, 0, 0b11);
+      worths(x, 6, 5);
+      is(x.of(0, 6), 1);
+      worths(x, 5, 7);
+      is(x.of(0, 6), 1);
+    });
     edge(TERMS, "by how much WORTH of its TIP may be less (0 .. 20;", "20")
         .broken("dear", "less <= 20", "less < 20")
         .broken("dear", "less <= 20", "less <= 21")
@@ -230,6 +237,19 @@ final class AskedEdges extends Edges {
           x.see(0, -1);
           is(x.of(0, 7), 2);
           is(x.of(0, 8), 0);
+        });
+    edge(TERMS, "how many sets (0 .. 4095) there are", "a LOVER's, up to each size")
+        .broken("of", "sets.add(set)", "if (Integer.bitCount(set) < 3) sets.add(set)")
+        .broken("of", "sets.add(set)", "if (Integer.bitCount(set) != 11) sets.add(set)")
+        .by(() -> {
+          int[] sets = {0, 0, 1, 12, 67, 232, 562, 1024, 1486, 1816, 1981, 2036, 2047, 2048};
+          for (int worth = 0; worth <= 13; worth++) {
+            Face x = with(3, 0, 0);
+            worths(x, worth);
+            x.see(0, 0);
+            is(x.of(0, 7), sets[worth]);
+            is(x.of(0, 8), sets[worth] > 0 ? 1 : -5);
+          }
         });
     edge(TERMS, "all of SEEN that is of it is so; the least (-5: none)")
         .broken("of", "sets.isEmpty() ? -5", "sets.isEmpty() ? 0")

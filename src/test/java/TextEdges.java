@@ -49,6 +49,15 @@ final class TextEdges extends Edges {
       whole(FREES + "free 2");
       whole(FREES + "hold 1 p=1");
     });
+    edge(TERMS, "CLAUSES, 1 to 10", "all ten count").broken("sum", "bridges.get(held).split(\";\")", "bridges.get(held).split(\";\", 9)").by(() -> {
+      Face x = with(0, 0, 0);
+      is(bridge(x, "press 1 p=0;press 2 p=0;hold 3 p=0;free 1;free 2;free 3;free 4;free 5;free 6;press 8 p=0"), 0);
+      is(x.urge(0, 0), 10 + 1 + 2 - 3 + 8);
+      is(x.told(1), 6);
+      is(bridge(x, "free 1;free 2;free 3;free 4;free 5;free 6;free 7;free 8;hold 9 p=0;free 9"), 1);
+      is(x.urge(0, 0), 1);
+      is(x.told(1), 9);
+    });
     edge(TERMS, "CLAUSES, 1 to 10", "eleven")
         .broken("fault", "c != ';' || clause == 10", "c != ';' || clause == 11")
         .broken("fault", "!open.isEmpty() || clause == 10", "!open.isEmpty() || clause == 11")
@@ -339,6 +348,24 @@ final class TextEdges extends Edges {
               is(bridge(x, "press 1 " + "pkvswd".charAt(i) + tests[k]), k);
               is(x.urge(5, 11), 20 + due[k]);
             }
+          }
+        });
+    edge(TERMS, "of one and a SENTENCE p the number of the one, k its KIND, v its v, s the number of the other, w its WORTH, d DAY modulo 10", "0 where the others are not")
+        .broken("holds", "left = one.v", "left = Math.max(one.v, person)")
+        .broken("holds", "left = day % 10", "left = day % 10 + s")
+        .by(() -> {
+          for (int i = 0; i < 6; i++) {
+            Face x = fresh();
+            for (int p = 0; p < 2; p++) x.one(i == 1 ? 0 : 6, i == 2 ? 0 : 9, 0);
+            x.pass(i == 5 ? 0 : 9);
+            int p = i == 0 ? 0 : 1, s = i == 3 ? 0 : 11;
+            int worth = i == 4 ? 0 : 20;
+            x.worth(s, worth);
+            String letter = "" + "pkvswd".charAt(i);
+            is(bridge(x, "press 1 " + letter + "<1"), 0);
+            is(x.urge(p, s), worth + 1);
+            is(bridge(x, "press 1 " + letter + ">0"), 1);
+            is(x.urge(p, s), worth);
           }
         });
     edge(TERMS, "p the number of the one").broken("holds", "left = person", "left = person + 1").by(() -> letter(0, "p=1", 1));
